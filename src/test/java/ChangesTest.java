@@ -189,6 +189,14 @@ public final class ChangesTest {
         x.deposit(0, 'g', 9);
         Check.fails("5 no room", UNSUPPORTED, () -> x.exchange(0, 'h', 'g', 1));
         Check.same("5 30 at once", x.exchange(0, 'g', 'm', 30), 10);
+        FlyTreasury y = withVault(0);
+        y.deposit(0, 'h', 20);
+        y.exchange(0, 'h', 'm', 1);
+        y.deposit(0, 'g', 9);
+        Check.fails("5 the crumbs make it 100", UNSUPPORTED, () -> y.exchange(0, 'h', 'g', 9));
+        y.withdraw(0, 'g', 1);
+        Check.same("5 exactly 99", y.exchange(0, 'h', 'g', 9), 91);
+        Check.same("5 flies 99", y.flies(0, 'g'), 99);
         // An unsound vault may exchange: only a frozen one may not.
         x.mint(0, 99);
         x.setRate('h', 1);

@@ -153,8 +153,15 @@ public final class QueriesTest {
         bothMost("638 legs", x, 'g', 319);
         bothMost("638 legs", x, 'm', 106);
         bothMost("638 legs", x, 'h', 31);
+        x.deposit(0, 'g', 1);
+        bothMost("crumbs are carried on", x, 'h', 32);
+        x.withdraw(0, 'g', 4);
+        x.deposit(0, 'm', 1);
+        x.deposit(0, 'm', 20);
+        x.withdraw(0, 'm', 23);
+        bothMost("one gnat and three midges", x, 'h', 31);
         x.setRate('g', 1);
-        bothMost("634 legs", x, 'g', 634);
+        bothMost("619 legs", x, 'g', 619);
         FlyTreasury y = new FlyTreasury();
         y.addVault(0);
         y.deposit(0, 'm', 3);
