@@ -18,7 +18,7 @@ final class Check {
         }
     }
 
-    /** The class must be this one exactly: an exception of the machine is a subclass of some that the document names. */
+    /** The class must be exactly this one: the machine's own exceptions are subclasses of some that the document names. */
     static void fails(String what, Class<? extends RuntimeException> due, Call call) {
         same(what, outcome(call), due.getName());
     }
