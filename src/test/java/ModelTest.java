@@ -147,6 +147,9 @@ public final class ModelTest {
     }
 
     private void call(String name, int a, char b, char c, int d) {
+        if (calls == CALLS) {
+            return;
+        }
         calls++;
         told.add(name + "(" + a + ", " + (int) b + ", " + (int) c + ", " + d + ")");
         Object got = Check.outcome(() -> callReal(name, a, b, c, d));
