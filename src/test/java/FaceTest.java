@@ -58,7 +58,7 @@ public final class FaceTest {
         return faces;
     }
 
-    private static String faceOf(Method method) {
+    static String faceOf(Method method) {
         List<String> parameters = new ArrayList<>();
         for (Class<?> type : method.getParameterTypes()) {
             parameters.add(type.getSimpleName());
@@ -81,7 +81,7 @@ public final class FaceTest {
         return faces;
     }
 
-    private static String faceOfLine(String line) {
+    static String faceOfLine(String line) {
         String head = line.substring(0, line.indexOf('('));
         String[] parameters = line.substring(line.indexOf('(') + 1, line.indexOf(')')).split(", ");
         List<String> types = new ArrayList<>();

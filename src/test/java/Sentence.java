@@ -3,14 +3,16 @@ import java.io.UncheckedIOException;
 import java.nio.file.Files;
 import java.nio.file.Path;
 import java.util.ArrayList;
+import java.util.HashMap;
 import java.util.HashSet;
 import java.util.LinkedHashMap;
 import java.util.List;
 import java.util.Map;
 import java.util.Set;
+import java.util.regex.Pattern;
 
-/** A sentence of the document, quoted; what its test prints begins with the promise or the section,
-    and the sentence. */
+/** Words of the document, quoted, mostly one sentence; what their test prints begins with the promise or the section,
+    and the words. */
 final class Sentence {
     interface Maker {
         FlyTreasury make();
@@ -22,7 +24,7 @@ final class Sentence {
 
     /** The lines under each heading; the heading of a promise is shortened to its number. */
     private static final Map<String, List<String>> SECTIONS = sections();
-    private static final Set<String> TESTED = new HashSet<>();
+    private static final Map<String, Set<String>> QUOTED = new HashMap<>();
 
     private static String latest = "";
 
@@ -33,7 +35,7 @@ final class Sentence {
         latest = name;
         String section = String.join(" ", SECTIONS.getOrDefault(heading, List.of()));
         Check.same(name + " stands in the document", section.contains(text), true);
-        TESTED.add(name);
+        QUOTED.computeIfAbsent(heading, none -> new HashSet<>()).add(text);
     }
 
     /** A test may end with an exception, since a call that it begins with was refused; the others run all the same. */
@@ -76,17 +78,42 @@ final class Sentence {
         same(what + ", what is seen afterwards", Trace.of(x), Trace.of(made.make()));
     }
 
-    /** Each promise has a sentence that is tested here, and each sentence that tells when it throws is one of them. */
+    /** For words that bind no call: an outlook on what follows, or what the document leaves free. */
+    static void withoutTest(String heading, String text) {
+        new Sentence(heading, text);
+    }
+
+    static List<String> linesOf(String heading) {
+        return SECTIONS.getOrDefault(heading, List.of());
+    }
+
+    /** Every word of the document stands in a quotation, and a sentence that tells when it throws in one of its own. */
     static void checkThatNoneIsMissing() {
         for (Map.Entry<String, List<String>> section : SECTIONS.entrySet()) {
             String heading = section.getKey();
-            boolean tested = TESTED.stream().anyMatch(name -> name.startsWith(heading + ": "));
-            Check.same(heading + " is tested", tested || !heading.startsWith("Promise "), true);
+            for (String words : unquoted(String.join(" ", section.getValue()), heading)) {
+                Check.same(named(heading, words), "not tested", "tested");
+            }
             for (String line : section.getValue()) {
-                boolean missing = line.startsWith("Throws ") && !TESTED.contains(named(heading, line));
+                boolean missing = line.startsWith("Throws ") && !quotesOf(heading).contains(line);
                 Check.same(named(heading, line) + " is missing", missing, false);
             }
         }
+    }
+
+    /** The pieces of the text that no quotation covers, but for those without a letter or a digit. */
+    private static List<String> unquoted(String text, String heading) {
+        StringBuilder rest = new StringBuilder(text);
+        for (String quote : quotesOf(heading)) {
+            for (int at = text.indexOf(quote); at >= 0; at = text.indexOf(quote, at + 1)) {
+                rest.replace(at, at + quote.length(), "\n".repeat(quote.length()));
+            }
+        }
+        return Pattern.compile("\n+").splitAsStream(rest).filter(words -> words.matches(".*[A-Za-z0-9].*")).toList();
+    }
+
+    private static Set<String> quotesOf(String heading) {
+        return QUOTED.getOrDefault(heading, Set.of());
     }
 
     private static String named(String heading, String text) {
@@ -97,8 +124,8 @@ final class Sentence {
         Map<String, List<String>> sections = new LinkedHashMap<>();
         String heading = "";
         for (String line : lines()) {
-            if (line.startsWith("## ") || line.startsWith("<h2>")) {
-                heading = line.replaceAll("## |</?h2>", "").replaceAll("^(Promise [0-9]+):.*", "$1");
+            if (line.startsWith("#") || line.startsWith("<h2>")) {
+                heading = line.replaceAll("#+ |</?h2>", "").replaceAll("^(Promise [0-9]+):.*", "$1");
             } else if (!line.isEmpty()) {
                 sections.computeIfAbsent(heading, none -> new ArrayList<>()).add(line);
             }

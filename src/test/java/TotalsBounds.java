@@ -12,9 +12,9 @@ final class TotalsBounds {
         Sentence.testEach(TotalsBounds::promise35, TotalsBounds::promise36, TotalsBounds::promise37,
             TotalsBounds::promise38, TotalsBounds::promise39, TotalsBounds::promise40, TotalsBounds::promise41,
             TotalsBounds::promise41NoVaults, TotalsBounds::promise42, TotalsBounds::promise42NoAudit,
-            TotalsBounds::promise43, TotalsBounds::promise43Falsified, TotalsBounds::promise44NoVault,
-            TotalsBounds::promise44Frozen, TotalsBounds::promise44Length, TotalsBounds::promise45,
-            TotalsBounds::promise46Empty, TotalsBounds::promise46NoIndex);
+            TotalsBounds::promise43, TotalsBounds::promise43Falsified, TotalsBounds::promise43FalsePrediction,
+            TotalsBounds::promise44NoVault, TotalsBounds::promise44Frozen, TotalsBounds::promise44Length,
+            TotalsBounds::promise45, TotalsBounds::promise46Empty, TotalsBounds::promise46NoIndex);
     }
 
     private static FlyTreasury two() {
@@ -171,16 +171,17 @@ final class TotalsBounds {
         s.same("restored", x.isConsistent(), true);
     }
 
+    private static final String CHECK = "Checks the state: for all kinds, both ways to compute the flies agree; both "
+        + "ways to compute the value agree; for all vaults, both ways to predict the days agree; and mintedTotal is "
+        + "redeemedTotal plus evaporatedTotal plus the dew of all vaults.";
+
     /** No calls lead to accounts that are wrong, so they are falsified behind the object's back. */
     private static void promise43Falsified() {
-        Sentence s = Sentence.ofPromise(43, "Checks the state: for all kinds, both ways to compute the flies agree; both "
-            + "ways to compute the value agree; for all vaults, both ways to predict the days agree; and mintedTotal is "
-            + "redeemedTotal plus evaporatedTotal plus the dew of all vaults.");
+        Sentence s = Sentence.ofPromise(43, CHECK);
         for (String account : new String[] {"fliesIn", "fliesOut"}) {
             for (int kind = 0; kind < 3; kind++) {
                 FlyTreasury x = two();
-                int[] flies = (int[]) fieldOf(ledgerOf(x), account);
-                flies[kind]++;
+                add(1, (int[]) fieldOf(ledgerOf(x), account), kind);
                 s.same("one too many in " + account + " of kind " + kind, x.isConsistent(), false);
             }
         }
@@ -189,6 +190,25 @@ final class TotalsBounds {
             addOne(ledgerOf(x), account);
             s.same("one too many in " + account, x.isConsistent(), false);
         }
+    }
+
+    /** Only a vault with fewer flies than none needs more days to be sound than its dew can be counted down. */
+    private static void promise43FalsePrediction() {
+        Sentence s = Sentence.ofPromise(43, CHECK);
+        for (int vault = 0; vault < 5; vault++) {
+            FlyTreasury x = Treasuries.withVaults(5);
+            Object[] vaults = (Object[]) fieldOf(ledgerOf(x), "vaults");
+            add(-99, (int[]) fieldOf(vaults[vault], "held"), 2);
+            add(-99, (int[]) fieldOf(ledgerOf(x), "fliesIn"), 2);
+            s.same("flies of vault " + vault, x.totalFlies('h'), x.totalFliesByAccounts('h'));
+            s.same("value of vault " + vault, x.totalValue(), x.totalValueByKinds());
+            s.same("days of vault " + vault, x.daysUntilSound(vault) != x.daysUntilSoundByCounting(vault), true);
+            s.same("fewer flies than none in vault " + vault, x.isConsistent(), false);
+        }
+    }
+
+    private static void add(int number, int[] row, int index) {
+        row[index] += number;
     }
 
     private static Object ledgerOf(FlyTreasury x) {

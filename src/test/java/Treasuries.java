@@ -59,6 +59,46 @@ final class Treasuries {
         return x;
     }
 
+    /**
+     * Three vaults in which hardly two numbers are the same, with rates of 3, 7 and 19 legs on day 2. Vault 0 is not
+     * sound and frozen for 3 more days:
+     *
+     *   vault  gnats  midges  hawkmoths  crumbs  dew  wings  stickiness  value  reserve
+     *     0      0      20        0         0     88    0        9        140     126
+     *     1      5       4       14         9     35    2        2        318      63
+     *     2     11       6        6         2     47    3        7        191     133
+     */
+    static FlyTreasury varied() {
+        FlyTreasury x = new FlyTreasury();
+        x.addVault(9);
+        x.setRate('m', 50);
+        x.deposit(0, 'm', 20);
+        x.mint(0, 90);
+        x.setRate('g', 3);
+        x.setRate('m', 7);
+        x.setRate('h', 19);
+        x.audit(0);
+        x.addVault(2);
+        x.deposit(1, 'g', 5);
+        x.deposit(1, 'm', 8);
+        x.deposit(1, 'h', 13);
+        x.exchange(1, 'm', 'h', 4);
+        x.mint(1, 40);
+        x.redeem(1, 3);
+        x.audit(1);
+        x.addVault(7);
+        x.deposit(2, 'g', 21);
+        x.deposit(2, 'm', 2);
+        x.deposit(2, 'h', 6);
+        x.exchange(2, 'g', 'm', 10);
+        x.mint(2, 50);
+        x.redeem(2, 1);
+        x.audit(2);
+        x.audit(2);
+        x.passDays(2);
+        return x;
+    }
+
     static void put(FlyTreasury x, int vault, char kind, int flies) {
         for (int left = flies; left > 0; left -= 30) {
             x.deposit(vault, kind, Math.min(left, 30));
